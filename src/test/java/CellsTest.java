@@ -65,6 +65,8 @@ public final class CellsTest {
         kinds(m, 3, 2, 1, 8, 0, 1, 0, 0, 0, 0, 0);
         kinds(m, 0, 2, 1, 24, 16, 0, 0, 1, 0, 0, 0);
         kinds(m, 2, 0, 1, 24, 16, 0, 0, 0, 0, 1, 0);
+        cell(m, 0, 2, 0, 12, 24, 16, 3, 15);
+        cell(m, 2, 0, 0, 21, 24, 16, 15, 3);
     }
 
     private static void noCells() {
@@ -153,5 +155,10 @@ public final class CellsTest {
         m.take(0, 5);
         Due.is("low(0, 0, 0), all alike but one", m.low(0, 0, 0), 15);
         Due.is("low(0, 0, 5)", m.low(0, 0, 5), 3);
+        m.clear(0);
+        Build.fill(m, 0, 0, 0, 9, 1, 0, 6, 0, 2, 11, 3, 3, 3);
+        Due.is("low(0, 3, -1): u, v and the weights each count once", m.low(0, 3, -1), 1 | 2 | 4 | 8);
+        Due.is("low(0, 4, -1)", m.low(0, 4, -1), 1 | 4);
+        Due.is("low(0, 3, 0)", m.low(0, 3, 0), 1 | 2);
     }
 }
