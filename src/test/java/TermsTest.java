@@ -1,3 +1,6 @@
+import java.util.ArrayList;
+import java.util.List;
+
 /**
  * What the document says of all calls: how many an object is used for, and that what is told is as things are.
  * (The order of refusals, and that they change nothing: RefusalsTest.)
@@ -7,11 +10,16 @@ public final class TermsTest {
         void on(MixedCells m);
     }
 
+    private interface Ask {
+        int of(MixedCells m);
+    }
+
     public static void main(String[] args) {
         constants();
         fiveHundredAndTwelve();
         asThingsAre();
         asThingsAreOfEachPair();
+        eachAfterEach();
         askedTwice();
         Due.end();
     }
@@ -141,6 +149,64 @@ public final class TermsTest {
                 Due.holds("bodies " + a + " and " + b, Build.toldOfTwo(asked, a, b).equals(due));
             }
         }
+    }
+
+    // "All that is told is as things are when it is asked", whatever was asked just ahead of it.
+    private static void eachAfterEach() {
+        List<Ask> asks = asks();
+        for (int later = 0; later < asks.size(); later++) {
+            int due = asks.get(later).of(unlikeBodies());
+            for (int earlier = 0; earlier < asks.size(); earlier++) {
+                MixedCells m = unlikeBodies();
+                asks.get(earlier).of(m);
+                Due.is("ask " + later + " after ask " + earlier, asks.get(later).of(m), due);
+            }
+        }
+    }
+
+    /** A full body, three points, two points, and nothing. */
+    private static MixedCells unlikeBodies() {
+        MixedCells m = Build.one(3, 1, 4, 1, 5, 9, 2, 6, 5, 9, 2, 6, 5, 3, 5, 8, 9, 7, 9, 3, 2);
+        Build.fill(m, 1, 12, 12, 0, 12, 0, 50, 11, 7, 0);
+        Build.fill(m, 2, 0, 12, 3, 10, 1, 8);
+        return m;
+    }
+
+    private static List<Ask> asks() {
+        List<Ask> asks = new ArrayList<>();
+        for (int body = 0; body < 4; body++) {
+            int a = body;
+            asks.add(m -> m.hull(a, 0));
+            asks.add(m -> m.hull(a, 1));
+            asks.add(m -> m.hull(a, 2));
+            asks.add(m -> m.hull(a, 3));
+            asks.add(m -> m.hull(a, 4));
+            asks.add(m -> m.corner(a, 1));
+            asks.add(m -> m.fan(a, 0));
+            asks.add(m -> m.fan(a, 1));
+            asks.add(m -> m.fan(a, 2));
+            asks.add(m -> m.low(a, 1, -1));
+        }
+        for (int[] pair : new int[][] {{0, 1}, {1, 2}, {2, 2}, {3, 0}}) {
+            int a = pair[0];
+            int b = pair[1];
+            asks.add(m -> m.sum(a, b, 0));
+            asks.add(m -> m.sum(a, b, 1));
+            asks.add(m -> m.sum(a, b, 2));
+            asks.add(m -> m.sum(a, b, 3));
+            asks.add(m -> m.sumCorner(a, b, 1, 0));
+            asks.add(m -> m.cells(a, b, 0));
+            asks.add(m -> m.cells(a, b, 1));
+            asks.add(m -> m.cells(a, b, 2));
+            asks.add(m -> m.cells(a, b, 111));
+            asks.add(m -> m.cell(a, b, 0, 1));
+            asks.add(m -> m.cell(a, b, 0, 2));
+            asks.add(m -> m.cell(a, b, 0, 3));
+            asks.add(m -> m.slope(a, b, 0, 2));
+            asks.add(m -> m.roots(a, b, 3));
+            asks.add(m -> m.roots(a, b, 13));
+        }
+        return asks;
     }
 
     /** To ask changes nothing. */
