@@ -29,6 +29,9 @@ public final class ModelTest {
         for (int seed = 64; seed < 112; seed++) {
             new ModelTest(seed).allOfTwoBodies();
         }
+        // Two objects, since one is used for 512 calls at most.
+        new ModelTest(3).mostCells("cell", 5);
+        new ModelTest(3).mostCells("slope", 4);
         Due.end();
     }
 
@@ -175,6 +178,23 @@ public final class ModelTest {
             }
             for (int what = 0; what < 4; what++) {
                 both("slope", 0, 1, i, what, 0);
+            }
+        }
+        cellsFillTheSum();
+    }
+
+    /* Two full bodies of 53 cells: the most that a long search has found. */
+    private void mostCells(String call, int whats) {
+        int[] first = {10, 10, 25, 2, 2, 17, 4, 6, 5, 12, 11, 36, 5, 8, 6, 0, 0, 47, 3, 4, 7};
+        int[] second = {6, 1, 1, 5, 2, 0, 2, 8, 12, 4, 4, 3, 0, 10, 43, 1, 9, 27, 12, 0, 26};
+        for (int i = 0; i < 21; i += 3) {
+            both("put", 0, 0, first[i], first[i + 1], first[i + 2]);
+            both("put", 1, 0, second[i], second[i + 1], second[i + 2]);
+        }
+        Due.is(name + ": the most cells", real.cells(0, 1, 0), 53);
+        for (int i = -1; i <= 53; i++) {
+            for (int what = 0; what < whats; what++) {
+                both(call, 0, 1, i, what, 0);
             }
         }
         cellsFillTheSum();
