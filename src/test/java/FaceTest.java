@@ -14,6 +14,8 @@ public final class FaceTest {
     public static void main(String[] args) {
         int modifiers = MixedCells.class.getModifiers();
         Due.holds("the class is public and final", Modifier.isPublic(modifiers) && Modifier.isFinal(modifiers));
+        Due.holds("it stands alone, without a package", MixedCells.class.getSuperclass() == Object.class
+                && MixedCells.class.getInterfaces().length == 0 && MixedCells.class.getPackageName().isEmpty());
         constants();
         constructor();
         methods();
@@ -30,6 +32,9 @@ public final class FaceTest {
         for (Field f : MixedCells.class.getDeclaredFields()) {
             if (!Modifier.isPrivate(f.getModifiers())) {
                 open.add(f.getName());
+                Due.is(f.getName() + " is a public constant of int",
+                        f.getType() == int.class ? f.getModifiers() : 0,
+                        Modifier.PUBLIC | Modifier.STATIC | Modifier.FINAL);
             }
         }
         Due.holds("no other field is open: " + open,
@@ -39,6 +44,7 @@ public final class FaceTest {
     private static void constructor() {
         Due.is("constructors", MixedCells.class.getDeclaredConstructors().length, 1);
         Due.is("public constructors", MixedCells.class.getConstructors().length, 1);
+        Due.is("its numbers", MixedCells.class.getConstructors()[0].getParameterCount(), 0);
     }
 
     private static void methods() {
@@ -49,6 +55,10 @@ public final class FaceTest {
                 Due.holds(m.getName() + " is public, not static, and answers an int",
                         Modifier.isPublic(m.getModifiers()) && !Modifier.isStatic(m.getModifiers())
                                 && m.getReturnType() == int.class);
+                for (Class<?> type : m.getParameterTypes()) {
+                    Due.holds(m.getName() + " is asked with numbers of int", type == int.class);
+                }
+                Due.is(m.getName() + " names no exceptions", m.getExceptionTypes().length, 0);
             } else {
                 Due.holds("the private " + m.getName() + " bears no public name", !isPublicName(m.getName()));
             }

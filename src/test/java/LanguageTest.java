@@ -10,6 +10,7 @@ import com.sun.source.tree.MemberReferenceTree;
 import com.sun.source.tree.MemberSelectTree;
 import com.sun.source.tree.MethodInvocationTree;
 import com.sun.source.tree.MethodTree;
+import com.sun.source.tree.NewArrayTree;
 import com.sun.source.tree.NewClassTree;
 import com.sun.source.tree.SynchronizedTree;
 import com.sun.source.tree.ThrowTree;
@@ -78,6 +79,8 @@ public final class LanguageTest {
         private final Map<String, Set<String>> calls = new TreeMap<>();
         private int classes = 0;
         private String method = "";
+        /* A constructor or a field's first value; all else is a call. */
+        private boolean isMaking = true;
 
         Rules(CompilationUnitTree unit, Trees trees) {
             this.unit = unit;
@@ -141,7 +144,10 @@ public final class LanguageTest {
             long from = line(trees.getSourcePositions().getStartPosition(unit, m));
             long to = line(trees.getSourcePositions().getEndPosition(unit, m));
             rule(11, m, "sixty lines at most", to - from < 60);
-            return super.visitMethod(m, none);
+            isMaking = m.getReturnType() == null;
+            super.visitMethod(m, none);
+            isMaking = true;
+            return null;
         }
 
         @Override
@@ -173,7 +179,14 @@ public final class LanguageTest {
         public Void visitNewClass(NewClassTree made, Void none) {
             rule(2, made, "no anonymous class", made.getClassBody() == null);
             rule(4, made, "no class of the library", TYPES.contains(made.getIdentifier().toString()));
+            rule(12, made, "calls make no objects", isMaking);
             return super.visitNewClass(made, none);
+        }
+
+        @Override
+        public Void visitNewArray(NewArrayTree made, Void none) {
+            rule(12, made, "calls make no arrays", isMaking);
+            return super.visitNewArray(made, none);
         }
 
         @Override
